@@ -477,7 +477,7 @@ public final class FaultIsolation {
         }
 
         private void fillUpTo(Code code, int address) {
-            while (end < address) {
+            for (int at = end; at < address; at += INSTRUCTION) {
                 append(code, OR, 0, 0, 0);
             }
         }

@@ -207,6 +207,9 @@ public final class BytesTest {
             }
             x.poke(8, 17);
             CHECKS.due("verify() of TO behind ORN", x.verify(), 12);
+            FaultIsolation early = bundles(0, n);
+            write(early, 0, good);
+            CHECKS.due("verify() of TO as the second", early.verify(), -1);
             FaultIsolation first = bundles(0, n);
             write(first, 0, 14, 6, 0, 0);
             CHECKS.due("verify() of TO as the first", first.verify(), 0);

@@ -16,6 +16,7 @@ public final class ProgramsTest {
         rewriteEachWord();
         rewriteFillsForOneBundle();
         rewriteFillsForTargets();
+        rewriteForgetsOldTargets();
         rewriteFillsBeforeCall();
         rewriteSizes();
         rewriteMasks();
@@ -220,6 +221,15 @@ public final class ProgramsTest {
         CHECKS.code(x, 32, 1, 2, 0, 48, 0, 0, 0, 0, 6, 0, 0, 0, 6, 0, 0, 0);
         CHECKS.code(x, 48, 9, 6, 2, 3);
         CHECKS.code(x, 64, 0, 0, 0, 0);
+    }
+
+    private static void rewriteForgetsOldTargets() {
+        FaultIsolation x = program(13, 0, 0, 0, 12, 0, 0, 2, 0, 0, 0, 0);
+        CHECKS.due("rewrite()", x.rewrite(), 2);
+        CHECKS.due("place(2)", x.place(2), 16);
+        x.set(1, 18, 0, 0, 0);
+        CHECKS.due("rewrite() with no way to 2", x.rewrite(), 1);
+        CHECKS.due("place(2)", x.place(2), 8);
     }
 
     private static void rewriteFillsBeforeCall() {
