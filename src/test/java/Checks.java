@@ -25,7 +25,7 @@ final class Checks {
         throwing(call, it, IllegalStateException.class);
     }
 
-    private void throwing(String call, IntSupplier it, Class<? extends RuntimeException> want) {
+    void throwing(String call, IntSupplier it, Class<? extends RuntimeException> want) {
         made++;
         String got;
         try {

@@ -90,60 +90,52 @@ public final class IsolationTest {
 
     /** A program without jumps by register that keeps to the region answers the same when it is rewritten. */
     private static void rewrittenProgramsDoTheSame(Random random) {
-        int count = 1 + random.nextInt(60);
         int region = random.nextInt(4);
-        FaultIsolation x = new FaultIsolation(region);
-        for (int i = 0; i < count; i++) {
-            int[] it = soundInstruction(random, count);
-            // forward jumps alone, so that both runs end; register 5 points into the region
-            boolean jump = it[0] == 12 || it[0] == 13;
-            if (jump && it[3] <= i || it[0] == 14 || it[0] == 15 || it[0] == 18 || it[1] == 5 && it[0] != 11) {
-                it = new int[] {2, 0, 1, 2};
-            }
-            int b = it[0] == 10 || it[0] == 11 ? 5 : it[2];
-            x.add(it[0], it[1], b, it[3]);
-        }
-        x.rewrite();
+        int[] numbers = forwardProgram(random, 1 + random.nextInt(60));
         int[] registers = new int[8];
         for (int r = 0; r < 8; r++) {
             registers[r] = r == 5 ? 1024 * region + random.nextInt(1024 - 255) : random.nextInt();
         }
-        int how = state(x, true, registers);
-        int[] stored = new int[1024];
-        for (int i = 0; i < 1024; i++) {
-            stored[i] = x.memoryAt(1024 * region + i);
-        }
-        int[] left = left(x);
-        int stores = x.told(4);
-        CHECKS.due("the program's strays", x.told(2), 0);
-        x.clear();
-        int how2 = state(x, false, registers);
-        CHECKS.due("how the bytes ended", how2, 1);
-        CHECKS.holds("how the program ended", how == 1 || how == 2 && x.told(0) < x.size());
-        CHECKS.due("stores", x.told(4), stores);
+        FaultIsolation program = Made.program(region, numbers);
+        int how = runWith(program, true, registers);
+        FaultIsolation bytes = Made.program(region, numbers);
+        bytes.rewrite();
+        CHECKS.due("how the bytes ended", runWith(bytes, false, registers), 1);
+        CHECKS.holds("how the program ended: " + how, how == 1 || how == 2 && program.told(0) == numbers.length);
+        CHECKS.due("the program's strays", program.told(2), 0);
+        CHECKS.due("stores", bytes.told(4), program.told(4));
         for (int r = 0; r < 8; r++) {
             if (r != 6) {
-                CHECKS.due("register " + r, x.registerAt(r), left[r]);
+                CHECKS.due("register " + r, bytes.registerAt(r), program.registerAt(r));
             }
         }
-        for (int i = 0; i < 1024; i++) {
-            CHECKS.due("memory " + i, x.memoryAt(1024 * region + i), stored[i]);
+        for (int i = registers[5]; i <= registers[5] + 255; i++) {
+            CHECKS.due("memory " + i, bytes.memoryAt(i), program.memoryAt(i));
         }
     }
 
-    private static int state(FaultIsolation x, boolean program, int[] registers) {
+    /** Forward jumps alone, so that it ends; it reaches no more than the 256 bytes from register 5 on. */
+    private static int[] forwardProgram(Random random, int count) {
+        int[] numbers = new int[4 * count];
+        for (int i = 0; i < count; i++) {
+            int[] it = soundInstruction(random, count);
+            boolean jump = it[0] == 12 || it[0] == 13;
+            if (jump && it[3] <= i || it[0] == 14 || it[0] == 15 || it[0] == 18 || it[1] == 5 && it[0] != 11) {
+                it = new int[] {2, 0, 1, 2};
+            }
+            if (it[0] == 10 || it[0] == 11) {
+                it[2] = 5;
+            }
+            System.arraycopy(it, 0, numbers, 4 * i, 4);
+        }
+        return numbers;
+    }
+
+    private static int runWith(FaultIsolation x, boolean program, int[] registers) {
         for (int r = 0; r < 8; r++) {
             x.register(r, registers[r]);
         }
         return x.run(program, 0, 1000);
-    }
-
-    private static int[] left(FaultIsolation x) {
-        int[] left = new int[8];
-        for (int r = 0; r < 8; r++) {
-            left[r] = x.registerAt(r);
-        }
-        return left;
     }
 
     /** Rewritten bytes with a few changed: what the verifier takes of them must still be isolated. */

