@@ -293,7 +293,8 @@ public final class ProgramBoundsTest {
     /** "TO: OR 6 A A; ANDN 6 MASK; TO 6." */
     private static void jumpsByRegister() {
         for (int a : new int[] {0, 7}) {
-            FaultIsolation x = Made.program(0, 14, a, 0, 0);
+            // its B and C mean nothing, and what is written is TO 6 alone
+            FaultIsolation x = Made.program(0, 14, a, 255, 255);
             CHECKS.due("rewrite()", x.rewrite(), 1);
             CHECKS.code(x, 0, 6, 6, a, a, 16, 6, 0, 0, 14, 6, 0, 0, 0, 0, 0, 0);
         }
